@@ -402,6 +402,8 @@ public final class CradleNetsPromises {
     x.put(0, 0, 3);
     x.put(1, 0, 2);
     due("17 shared doubts", x.sure(0, 1, 0), 1);
+    x.emits(1, 0, 99, 100, 100);
+    due("17 one too many", x.sure(0, 1, 0), 0);
     CradleNets y = backwards();
     due("17 backwards", y.sure(0, 1, 0), 1);
     due("17 backwards back", y.sure(1, 0, 0), 0);
@@ -468,6 +470,7 @@ public final class CradleNetsPromises {
     x.put(1, 2, 1);
     due("19 the least", x.turned(0), 1);
     due("19 the last", x.turned(1), 2);
+    due("19 four", withMakings(4).turned(0), NONE);
     due("19 no makings", new CradleNets().turned(3), NONE);
     due("19 unknown", x.turned(4), UNKNOWN);
     for (int far : FAR) due("19 far", x.turned(far), UNKNOWN);
@@ -599,6 +602,14 @@ public final class CradleNetsPromises {
     due("23 given and needed is 0", x.count(3), 4);
     x.by(2, 0, 0);
     due("23 one less", x.count(2), 1);
+    x.emits(1, 0, 3, 3, 3);
+    due("23 stuff is no by-product", x.count(2), 1);
+    CradleNets y = withMakings(4);
+    y.by(3, 0, 1);
+    y.needs(0, 3, 1);
+    due("23 four", y.count(0), 4);
+    due("23 the last one's by-product", y.count(2), 1);
+    due("23 five of sixteen", y.count(3), 5);
     due("23 above", x.count(4), OUTSIDE);
     for (int far : FAR) due("23 far", x.count(far), OUTSIDE);
   }
