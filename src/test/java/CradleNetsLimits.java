@@ -312,6 +312,19 @@ public final class CradleNetsLimits {
     }
   }
 
+  // "At most 512 calls": the last of them is answered as any other.
+  private static void theLastOf512Calls() {
+    CradleNets x = withMakings(4);
+    int calls = 4;
+    for (; calls < 505; calls++) due("3 call " + calls, x.out(calls % 4, 1 + calls % 6), calls < 8 ? 1 : 1 + (calls - 4) % 6);
+    for (int v = 0; v < 6; v++, calls++) due("20 keep", x.keep(), v);
+    // each own entry is OUT times ALL, and that is OUT: no by-products, and weights of 1
+    long want = 1;
+    for (int told = 501; told < 505; told++) want *= (1 + told % 6) * (1 + told % 6);
+    due("11 the last call", x.worth(), want);
+    due("calls", calls + 1, 512);
+  }
+
   // ---- how far MAIN, ALL, THE TABLE and THE WORTH go
 
   private static CradleNets withMost(int rule) {
@@ -432,6 +445,7 @@ public final class CradleNetsLimits {
     fourMakingsAndNoMore();
     noMakingOnceAVersionIsKept();
     sixVersionsAndNoMore();
+    theLastOf512Calls();
     greatestTable();
     tableOfTheAvoided();
     leastMainAndAll();
